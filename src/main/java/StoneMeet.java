@@ -61,6 +61,8 @@ public final class StoneMeet {
     private Search search = null;
     private final int[] meetYears = new int[MOST_PAIRS];
     private final int[] movedYears = new int[MOST_PAIRS];
+    /** By how much a pair would grow: how many chalks. */
+    private final int[] alike = new int[2 * WIDEST_GAP + 1];
     private int drawn = 0;
 
     public StoneMeet() {
@@ -550,9 +552,9 @@ public final class StoneMeet {
         int best = 0;
         int least = MOST_CHALK + 2;
         for (int drops = 0; drops <= MOST_DROPS; drops++) {
-            int alike = mostAlike(bits, p, drops);
-            if (alike < least) {
-                least = alike;
+            int most = mostAlike(bits, p, drops);
+            if (most < least) {
+                least = most;
                 best = drops;
             }
         }
@@ -597,16 +599,16 @@ public final class StoneMeet {
 
     /** Of some chalks, the greatest number by which a pair would grow as much as each other. */
     private int mostAlike(int chalkBits, int p, int drops) {
-        int[] counts = new int[2 * WIDEST_GAP + 1];
+        Arrays.fill(alike, 0);
         int most = 0;
         for (int n = 0; n <= MOST_CHALK; n++) {
             if ((chalkBits >> n & 1) == 1) {
                 course.tune(cave, withDigit(now.chalks, p, n));
                 int growth = course.growth(p, drops, digit(now.state, p), cave.metCount(now.state), 0);
                 int place = growth + WIDEST_GAP;
-                if (place >= 0 && place < counts.length) {
-                    counts[place]++;
-                    most = Math.max(most, counts[place]);
+                if (place >= 0 && place < alike.length) {
+                    alike[place]++;
+                    most = Math.max(most, alike[place]);
                 }
             }
         }
@@ -1603,7 +1605,7 @@ public final class StoneMeet {
             return collapses(gaps, dry) ? gaps + FALLEN : gaps;
         }
 
-        private static int kept(int gap) {
+        static int kept(int gap) {
             return gap < 0 ? 0 : Math.min(gap, WIDEST_GAP);
         }
 
@@ -1810,6 +1812,7 @@ public final class StoneMeet {
         /** Goals of 0 and more: sets that have to meet. */
         static final int FELLING = -1;
         static final int EVERYTHING = -2;
+        private static final int NEVER = STATES;
 
         private final Course course;
         private Cave cave;
@@ -1825,6 +1828,7 @@ public final class StoneMeet {
         private final long[] counts = new long[STATES];
         private final int[] wet = new int[MOST_LEADINGS];
         private final int[] dry = new int[MOST_LEADINGS];
+        private final int[] least = new int[WIDEST_GAP + 1];
         int reached = 0;
         /** What was explored last need not be again, since a way is asked for year by year. */
         private boolean explored = false;
@@ -2034,15 +2038,18 @@ public final class StoneMeet {
 
         /** Within how few years a pair is forced to meet, NONE if it isn't. */
         int forcedWithin(int start, int p) {
-            if (start >= FALLEN) {
+            tellLeastYears(p);
+            if (start >= FALLEN || least[digit(start, p)] == NEVER) {
                 return NONE;
             }
             reachByTurns(start, p);
-            for (int years = 1; years <= STATES; years++) {
-                boolean more = false;
+            boolean more = true;
+            for (int years = 1; years <= STATES && more; years++) {
+                more = false;
                 for (int i = 0; i < reached; i++) {
                     int state = queue[i];
-                    if (links[state] == 0 && forcingLeading(state, p, years - 1) != NONE) {
+                    boolean hopeful = links[state] == 0 && least[digit(state, p)] <= years;
+                    if (hopeful && forcingLeading(state, p, years - 1) != NONE) {
                         links[state] = years;
                         more = true;
                     }
@@ -2050,11 +2057,37 @@ public final class StoneMeet {
                 if (links[start] != 0) {
                     return years;
                 }
-                if (!more) {
-                    return NONE;
-                }
             }
             return NONE;
+        }
+
+        /**
+         * By the pair's gap alone, as if in each year as many others had met as the guide likes: it
+         * takes so many years at least, and where even that is never, nothing need be looked at.
+         */
+        private void tellLeastYears(int p) {
+            Arrays.fill(least, NEVER);
+            least[0] = 0;
+            for (int years = 1; years <= WIDEST_GAP; years++) {
+                for (int gap = 1; gap <= WIDEST_GAP; gap++) {
+                    if (least[gap] == NEVER && mayBeForced(p, gap, years - 1)) {
+                        least[gap] = years;
+                    }
+                }
+            }
+        }
+
+        private boolean mayBeForced(int p, int gap, int years) {
+            for (int met = 0; met < cave.pairs; met++) {
+                for (int drops = 0; drops <= cave.drops; drops++) {
+                    int wetGap = Course.kept(gap - course.growth(p, drops, gap, met, 0));
+                    int dryGap = Course.kept(gap - course.growth(p, drops, gap, met, 1));
+                    if (least[wetGap] <= years && least[dryGap] <= years) {
+                        return true;
+                    }
+                }
+            }
+            return false;
         }
 
         private void reachByTurns(int start, int p) {
@@ -2071,7 +2104,8 @@ public final class StoneMeet {
         }
 
         private void reachOpen(int state, int p) {
-            if (state < FALLEN && digit(state, p) > 0 && isNew(state)) {
+            int gap = digit(state, p);
+            if (state < FALLEN && gap > 0 && least[gap] != NEVER && isNew(state)) {
                 reach(state, 0);
             }
         }
@@ -2092,7 +2126,8 @@ public final class StoneMeet {
             if (digit(state, p) == 0) {
                 return true;
             }
-            return state < FALLEN && links[state] != 0 && links[state] <= years;
+            boolean told = state < FALLEN && marks[state] == stamp;
+            return told && links[state] != 0 && links[state] <= years;
         }
     }
 }

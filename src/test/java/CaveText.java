@@ -36,11 +36,12 @@ final class CaveText {
         for (int times = 1 + random.nextInt(2); times > 0; times--) {
             int i = random.nextInt(tokens.size());
             String other = TOKENS[random.nextInt(TOKENS.length)];
-            switch (random.nextInt(5)) {
+            switch (random.nextInt(6)) {
                 case 0 -> tokens.remove(i);
-                case 1 -> tokens.add(i, other);
-                case 2 -> tokens.add(i, tokens.get(random.nextInt(tokens.size())));
-                case 3 -> tokens.subList(i, tokens.size()).clear();
+                case 1 -> swapNumber(i);
+                case 2 -> tokens.add(i, other);
+                case 3 -> tokens.add(i, tokens.get(random.nextInt(tokens.size())));
+                case 4 -> tokens.subList(i, tokens.size()).clear();
                 default -> tokens.set(i, other);
             }
             if (tokens.isEmpty()) {
@@ -49,6 +50,16 @@ final class CaveText {
         }
         String text = joined();
         return text.length() > 880 ? text.substring(0, 880) : text;
+    }
+
+    /** Another number in place of the next one, so that bounds are gone over. */
+    private void swapNumber(int from) {
+        for (int i = from; i < tokens.size(); i++) {
+            if (Character.isDigit(tokens.get(i).charAt(0))) {
+                tokens.set(i, "" + random.nextInt(12));
+                return;
+            }
+        }
     }
 
     private String joined() {
@@ -72,7 +83,7 @@ final class CaveText {
     private void tellAll() {
         int drops = random.nextInt(5);
         put("cave drops " + drops + " ;");
-        int gap = 1 + random.nextInt(pairs > 2 ? 4 : 9);
+        int gap = 1 + random.nextInt(pairs > 3 ? 4 : pairs > 2 ? 6 : 9);
         int told = 0;
         while (told < pairs) {
             if (random.nextInt(4) == 0) {
@@ -105,19 +116,54 @@ final class CaveText {
     }
 
     private void tellLaw() {
+        boolean gentle = random.nextInt(5) < 3;
         switch (random.nextInt(4)) {
             case 0 -> put("dry " + random.nextInt(11) + " ;");
             case 1 -> {
                 put("falls :");
-                truth(0, false);
+                if (gentle) {
+                    put(gentleFall());
+                } else {
+                    truth(0, false);
+                }
                 put(";");
             }
             default -> {
                 put("grows :");
-                sum(0, true);
+                if (gentle) {
+                    put(gentleGrowth());
+                } else {
+                    sum(0, true);
+                }
                 put(";");
             }
         }
+    }
+
+    /** Laws drawn blindly mostly end all in a year or never; these take their time. */
+    private String gentleGrowth() {
+        int n = random.nextInt(5);
+        int m = random.nextInt(3);
+        String[] laws = {
+            "drops * " + (1 + m) + " - dry", "drops - " + m, "if dry = 1 then 0 else drops * chalk end",
+            "if drops > " + m + " then 1 else 0 end", "if met > " + m + " then drops else 1 end - dry * " + m,
+            "if gap > " + n + " then drops else drops - 1 end", "( drops + " + m + " ) * ( chalk - dry ) - " + n,
+            "if gap = 9 then " + (n + 1) + " else 0 - 1 end", "if drops = " + n + " then 1 - dry else 0 - dry end",
+            "if [ dry = 1 and not met = 0 ] or pair = " + m + " then drops * 2 else drops end - " + m,
+            "if gap < " + (n + 2) + " and drops > 0 then 1 else if drops = 0 then 0 - 1 else 2 - dry end end",
+        };
+        return laws[random.nextInt(laws.length)];
+    }
+
+    private String gentleFall() {
+        int n = random.nextInt(10);
+        int m = random.nextInt(3);
+        String[] laws = {
+            "gaps < " + n, "widest > " + (4 + n / 2), "met = " + (m + 1), "dry = 1 and met > " + m,
+            "gaps = " + n + " or widest = " + (9 - n), "widest < " + (1 + m), "not [ gaps > " + n + " ] and dry = 0",
+            "gaps - widest * 2 > " + m, "met = " + m + " and widest = " + n,
+        };
+        return laws[random.nextInt(laws.length)];
     }
 
     private void sum(int depth, boolean growth) {

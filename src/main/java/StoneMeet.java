@@ -26,6 +26,8 @@ public final class StoneMeet {
     private static final int FED_BYTES = 20;
     private static final int MOST_PAIRS = 4;
     private static final int MOST_DROPS = 4;
+    /** From no drops to the most. */
+    private static final int SHARES = 5;
     private static final int MOST_LEADINGS = 35;
     private static final int LEADING_NUMBERS = 625;
     private static final int WIDEST_GAP = 9;
@@ -459,6 +461,9 @@ public final class StoneMeet {
         if (now.state >= FALLEN) {
             return NOT_NOW;
         }
+        if (cave.falls == null) {
+            return NONE;
+        }
         Search rows = searching();
         rows.explore(now.state, Search.EVERYTHING);
         return rows.longestHold(now.state);
@@ -467,6 +472,9 @@ public final class StoneMeet {
     public int felling() {
         if (now.state >= FALLEN) {
             return NOT_NOW;
+        }
+        if (cave.falls == null) {
+            return NONE;
         }
         Search rows = searching();
         return rows.lengthTo(rows.explore(now.state, Search.FELLING));
@@ -823,6 +831,8 @@ public final class StoneMeet {
         final Law falls;
         /** All leadings, the least first. */
         final int[] leadings;
+        /** By leadings, then by pairs: where in a row of shares, by pairs and drops, the pair's is. */
+        final int[] shareAt;
 
         Cave(Parser told) {
             pairs = told.pairs;
@@ -836,6 +846,11 @@ public final class StoneMeet {
             int unled = told.pairs > 0 ? told.drops : 0;
             leading = told.leading == NONE ? unled : told.leading;
             leadings = listLeadings(told.pairs, told.drops);
+            shareAt = new int[leadings.length * MOST_PAIRS];
+            for (int i = 0; i < shareAt.length; i++) {
+                int p = i % MOST_PAIRS;
+                shareAt[i] = p * SHARES + dropsOf(leadings[i / MOST_PAIRS], p);
+            }
         }
 
         private static int[] listLeadings(int pairs, int drops) {
@@ -880,7 +895,11 @@ public final class StoneMeet {
         }
 
         int metCount(int state) {
-            return Integer.bitCount(metBits(state));
+            int met = 0;
+            for (int p = 0; p < pairs; p++) {
+                met += digit(state, p) == 0 ? 1 : 0;
+            }
+            return met;
         }
 
         int gapSum(int state) {
@@ -1040,9 +1059,9 @@ public final class StoneMeet {
             place = end;
             if (end >= length) {
                 kind = END;
-            } else if (isLetter(text[end])) {
+            } else if (text[end] >= 'a' && text[end] <= 'z') {
                 readWord();
-            } else if (isCipher(text[end])) {
+            } else if (text[end] >= '0' && text[end] <= '9') {
                 readNumber();
             } else {
                 kind = text[end] > 0 && SIGNS.indexOf((char) text[end]) >= 0 ? SIGN : NOTHING;
@@ -1052,14 +1071,14 @@ public final class StoneMeet {
 
         private void readWord() {
             kind = WORD;
-            while (end < length && isLetter(text[end])) {
+            while (end < length && text[end] >= 'a' && text[end] <= 'z') {
                 end++;
             }
         }
 
         private void readNumber() {
             value = 0;
-            while (end < length && isCipher(text[end])) {
+            while (end < length && text[end] >= '0' && text[end] <= '9') {
                 value = end - place < 3 ? value * 10 + text[end] - '0' : value;
                 end++;
             }
@@ -1076,14 +1095,6 @@ public final class StoneMeet {
                 }
             }
             return true;
-        }
-
-        private static boolean isLetter(int sign) {
-            return sign >= 'a' && sign <= 'z';
-        }
-
-        private static boolean isCipher(int sign) {
-            return sign >= '0' && sign <= '9';
         }
     }
 
@@ -1516,10 +1527,10 @@ public final class StoneMeet {
         private final int[] known = new int[Law.WORDS];
         private final int[] stack = new int[Law.STACK];
         /** By met, pair, drops, gap, dry: 10 more than the growth, 0 if it hasn't been asked. */
-        private final byte[] growths = new byte[5 * MOST_PAIRS * 5 * 10 * 2];
+        private final byte[] growths = new byte[(MOST_PAIRS + 1) * MOST_PAIRS * SHARES * 10 * 2];
         /** By gaps, dry: 1 if the roof falls, -1 if not; made when a law of it is first asked. */
         private byte[] fallings = new byte[0];
-        private final int[] shares = new int[MOST_PAIRS * 5];
+        private final int[] shares = new int[MOST_PAIRS * SHARES];
         private Cave cave;
         private int chalks = 0;
 
@@ -1547,7 +1558,7 @@ public final class StoneMeet {
             if (cave.grows == null) {
                 return dry == 1 ? 0 : drops;
             }
-            int slot = (((met * MOST_PAIRS + p) * 5 + drops) * 10 + gap) * 2 + dry;
+            int slot = (((met * MOST_PAIRS + p) * SHARES + drops) * 10 + gap) * 2 + dry;
             if (slot < 0 || slot >= growths.length) {
                 return 0;
             }
@@ -1619,17 +1630,17 @@ public final class StoneMeet {
                 int gap = digit(gaps, p);
                 for (int drops = 0; drops <= cave.drops; drops++) {
                     int left = gap == 0 ? 0 : kept(gap - growth(p, drops, gap, met, dry));
-                    shares[p * 5 + drops] = left * TENS[p];
+                    shares[p * SHARES + drops] = left * TENS[p];
                 }
             }
+            int[] shareAt = cave.shareAt;
+            boolean mayFall = cave.falls != null;
             for (int k = 0; k < cave.leadings.length; k++) {
-                int rest = cave.leadings[k];
                 int next = 0;
-                for (int p = 0; p < cave.pairs; p++) {
-                    next += shares[p * 5 + rest % 5];
-                    rest /= 5;
+                for (int i = k * MOST_PAIRS; i < k * MOST_PAIRS + cave.pairs; i++) {
+                    next += shares[shareAt[i]];
                 }
-                into[k] = collapses(next, dry) ? next + FALLEN : next;
+                into[k] = mayFall && collapses(next, dry) ? next + FALLEN : next;
             }
         }
     }

@@ -48,6 +48,11 @@ public final class FaultsTest {
         at(1, "cave drops ^12345678901234567890;");
         at(1, "cave ^_drops 2;");
         at(2, "^cavedrops 2;");
+        at(2, CAVE + "^zzz;");
+        at(2, CAVE + "^aaa;");
+        at(1, CAVE + "^`;");
+        at(1, CAVE + "^{;");
+        at(1, CAVE + "^/;");
         at(2, "cave drops 2 ^2;");
         at(2, "^");
         at(2, "   ^");
@@ -177,6 +182,8 @@ public final class FaultsTest {
         whole(2, CAVE + "falls: not [ not [ not [1=1] or not (1)=2 ] and not [ not [1=1] ] ];");
         at(4, CAVE + "falls: not [ not [ not (^(1))=2 ] ];");
         at(4, CAVE + "falls: not [ not [ not [ 1=^(1) ] ] ];");
+        whole(2, CAVE + "grows: ((((if (1)=1 then (1) else (1) end))));");
+        whole(2, CAVE + "grows: ((((if not 1=1 then if 1=1 then 1 else 2 end else if 1=1 then 1 else 2 end end))));");
         // What has been left no longer counts.
         whole(2, CAVE + "grows: (((1)))+(((1)))*((((((1))))))-((((((1))))));");
         whole(2, CAVE + "falls: not 1=1 and not 1=1 and not 1=1 or not 1=1 or not 1=1 and not 1=1 or not 1=1;");

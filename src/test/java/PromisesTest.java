@@ -22,6 +22,7 @@ public final class PromisesTest {
         undo();
         judge();
         perform();
+        fallenWithoutGaps();
         age();
         lies();
         meets();
@@ -45,6 +46,7 @@ public final class PromisesTest {
         chance();
         mean();
         fallen();
+        asNew();
         numbers();
         write();
         lists();
@@ -392,12 +394,41 @@ public final class PromisesTest {
         is(14, "undone as a whole", x.undo(1), 0);
         is(14, "gap", x.pair(1, 0), 3);
         is(14, "chalk", x.pair(0, 1), 1);
+        Due.fill(x, 1, 100, 1, 11, 2);
+        is(14, "the least numbers", x.perform(1), 3);
+        is(14, "chalk 0", x.pair(0, 1), 0);
+        x.undo(1);
+        Due.fill(x, 1, 1, 9);
+        is(14, "one", x.perform(1), 1);
+        is(14, "one can be undone", x.undo(1), 0);
         Due.fill(x, 1, 5, 0);
         is(14, "none", x.perform(1), 0);
         is(14, "nothing to undo", x.count(7), 0);
         Due.fill(x, 1);
         is(14, "no deeds", x.perform(1), 0);
         is(14, "nothing to undo", x.count(7), 0);
+    }
+
+    /** All have met, and the roof has fallen: no gap is left to tell it by. */
+    private static void fallenWithoutGaps() {
+        StoneMeet x = Due.caveOf("cave drops 3;pair gap 3;pair gap 0;falls: gaps=0;");
+        is(8, "it meets", x.year(0), 1);
+        is(43, "fallen", x.count(5), 1);
+        is(10, "saw(0)", x.saw(0), -12);
+        is(25, "holding()", x.holding(), -5);
+        is(26, "felling()", x.felling(), -5);
+        is(19, "falls()", x.falls(), 0);
+        is(27, "stands()", x.stands(), 1);
+        is(37, "fallen(8, 0)", x.fallen(8, 0), 1);
+        is(33, "forces(0)", x.forces(0), 0);
+        Due.fill(x, 0, 10);
+        is(13, "judge(0, 1)", x.judge(0, 1), 2);
+        x = Due.caveOf("cave drops 3;pair gap 3;falls: gaps=0;");
+        is(26, "felling()", x.felling(), 1);
+        is(25, "holding()", x.holding(), 0);
+        is(21, "soonest(1)", x.soonest(1), 1);
+        is(23, "rows(1, 8)", x.rows(1, 8), 1);
+        is(19, "falls()", x.falls(), 1);
     }
 
     private static void age() {
@@ -462,6 +493,8 @@ public final class PromisesTest {
         }
         is(16, "round, far", x.lies(0, 99999), 8);
         is(16, "round, far", x.lies(1, 99998), 7);
+        x = Due.caveOf("cave drops 0;pair gap 9;grows: if dry=1 then 9 else if gap=9 then 4 else 0-1 end end;");
+        is(16, "round, none of them dry", x.lies(0, 99998), 7);
         x = Due.caveOf(ROOF);
         is(16, "behind the fall", x.lies(1, 50), 4);
         is(16, "behind the fall", x.lies(0, 50), 0);
@@ -778,6 +811,29 @@ public final class PromisesTest {
         Due.fill(x, 0, -1);
         // By drops 0: 0 six times; 1: 4, 2, 4; 2: 4 six times; 3: 6, 9 and 7: 4, 2, 4.
         is(32, "the greatest is least", x.attempt(0, 0), 1);
+        // Four drops alone tell chalk 0 and 9 apart, by as little and as much as can be.
+        x = Due.caveOf("cave drops 1;pair gap 9;pair gap 9;grows: if drops=4 then if chalk=9 then 99 else chalk-10 end else 0 end;");
+        Due.fill(x, 0, 9);
+        is(32, "four drops", x.attempt(0, 0), 4);
+        // Drops 0: all ten alike; 1: nine; 2: one of -9 each, but chalk 0 and 9 alike.
+        x = Due.caveOf("cave drops 0;pair gap 9;grows: if drops=0 then 0 else if drops=1 then if chalk=9 then 1 else 0 end"
+                + " else if drops=2 then if chalk=0 then 0-9 else if chalk=9 then 0-9 else chalk end end else 0-9 end end end;");
+        Due.fill(x, 0, -1);
+        is(32, "the least and the greatest chalk", x.attempt(0, 0), 2);
+        // Of seven alike among ten, the first drops.
+        x = Due.caveOf("cave drops 0;pair gap 9;grows: if chalk<8 then drops*0 else drops+1 end;");
+        Due.fill(x, 0, -1);
+        is(32, "eight alike by any drops", x.attempt(0, 0), 0);
+        // Only chalk 8 and 9 are left, alike without drops.
+        x = Due.caveOf("cave drops 1;pair gap 9;pair gap 9;lead 0 1;"
+                + "grows: if drops=0 then if chalk>7 then 1 else 0 end else if drops=1 then chalk-8 else 0 end end;");
+        Due.fill(x, 0, 8);
+        is(31, "8 and 9", x.chalks(0, 0), 768);
+        is(32, "8 and 9", x.attempt(0, 0), 1);
+        // A dry year would tell them apart, but it isn't dry.
+        x = Due.caveOf("cave drops 0;pair gap 9;grows: if dry=1 then if drops=1 then chalk else 0 end else if drops=2 then chalk else 0 end end;");
+        Due.fill(x, 0, 9);
+        is(32, "not dry", x.attempt(0, 0), 2);
         x = Due.caveOf("cave drops 1;pair gap 1;");
         x.year(0);
         Due.fill(x, 0, 5);
@@ -799,6 +855,17 @@ public final class PromisesTest {
         x.year(0);
         x.year(0);
         is(33, "then", x.forces(1), 3);
+        is(33, "one by one", Due.caveOf("cave drops 1;pair gap 9;grows: 1;").forces(0), 9);
+        is(33, "wet is worse", Due.caveOf("cave drops 1;pair gap 9;grows: 2+dry;").forces(0), 5);
+        is(33, "wet is never", Due.caveOf("cave drops 1;pair gap 9;grows: dry;").forces(0), -1);
+        // Leading 1 closes pair 0 if it is dry, 5 if it isn't: none of them whatever the lamp does.
+        is(33, "neither", Due.caveOf("cave drops 1;pair gap 1;pair gap 1;grows: if drops=dry then 1 else 0 end;").forces(0), -1);
+        // Without drops the gap is 1 wider: what is forced from 2 comes a year behind what is from 1.
+        x = Due.caveOf("cave drops 1;pair gap 1;pair gap 9;lead 0 1;grows: if gap=1 then 0-1 else if gap=2 then 0-1 else 1+drops*2 end end;");
+        is(33, "by a round", x.forces(0), 3);
+        // Pair 1 meets in one year or two, as the lamp likes, pair 0 the year behind it.
+        is(33, "the slower way", Due.caveOf("cave drops 0;pair gap 1;pair gap 2;grows: if pair=0 then met else 2-dry end;").forces(0), 3);
+        is(33, "with no drops", Due.caveOf("cave drops 1;pair gap 3;pair gap 9;grows: if drops=0 then 3-dry else 0-9 end;").forces(0), 2);
         x = Due.caveOf("cave drops 0;pair gap 2;falls: 1=1;");
         x.year(0);
         is(33, "fallen", x.forces(0), -1);
@@ -883,6 +950,52 @@ public final class PromisesTest {
         is(37, "years", x.fallen(-1, 1), -3);
         x.year(1);
         is(37, "it has", x.fallen(0, 0), 1);
+        x = Due.caveOf("cave drops 1;pair gap 8;dry 9;falls: met=1;");
+        is(37, "8 years", x.fallen(8, 0), 1);
+        is(37, "8 years", x.fallen(8, 1), 100000000);
+        is(37, "no pairs", Due.caveOf("cave drops 1;dry 5;falls: dry=1;").fallen(1, 1), 2);
+    }
+
+    /** Nothing that was asked of one cave, or with other chalk, is left in the answers about the next. */
+    private static void asNew() {
+        StoneMeet x = new StoneMeet();
+        String[] laws = {"", "grows: chalk;falls: gaps=4;", "grows: 2*chalk-dry;falls: gaps=2;", "falls: gaps<1;", "grows: dry*drops;"};
+        for (int i = 0; i < 25; i++) {
+            String text = "cave drops 2;pair gap 6;pair gap 0;dry 5;" + laws[i * 7 % 5];
+            Due.tell(x, text);
+            for (int k = 0; k < 2; k++) {
+                StoneMeet y = Due.caveOf(text);
+                x.chalk(0, 1 + k * 2);
+                y.chalk(0, 1 + k * 2);
+                for (int dry = 0; dry < 2; dry++) {
+                    is(6, "grown of " + text, x.grown(0, 1, dry), y.grown(0, 1, dry));
+                }
+                is(17, "meets of " + text, x.meets(0), y.meets(0));
+                is(19, "falls of " + text, x.falls(), y.falls());
+                is(27, "stands of " + text, x.stands(), y.stands());
+                is(21, "soonest of " + text, x.soonest(1), y.soonest(1));
+                is(26, "felling of " + text, x.felling(), y.felling());
+                is(25, "holding of " + text, x.holding(), y.holding());
+                is(33, "forces of " + text, x.forces(0), y.forces(0));
+                is(37, "fallen of " + text, x.fallen(3, 1), y.fallen(3, 1));
+                is(23, "rows of " + text, x.rows(1, 3), y.rows(1, 3));
+            }
+        }
+        x = Due.caveOf("cave drops 1;pair gap 6;grows: chalk;");
+        is(21, "by chalk 1", x.soonest(1), 6);
+        is(27, "by chalk 1", x.stands(), 7);
+        x.chalk(0, 3);
+        is(27, "by chalk 3", x.stands(), 3);
+        is(21, "by chalk 3", x.soonest(1), 2);
+        x.image(0);
+        Due.tell(x, "cave drops 1;pair gap 6 chalk 3;grows: 2;");
+        is(21, "by two a year", x.soonest(1), 3);
+        x.restore(0);
+        is(21, "by chalk 3", x.soonest(1), 2);
+        x.year(0);
+        is(21, "from there", x.soonest(1), 1);
+        is(22, "from there", x.way(1, 0), 1);
+        is(22, "not so many", x.way(1, 1), -1);
     }
 
     private static void numbers() {

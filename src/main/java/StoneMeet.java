@@ -1999,7 +1999,6 @@ public final class StoneMeet {
          * stays so by all leadings that are left.
          */
         long countRows(int start, int set, int years) {
-            begin();
             long rows = 0;
             int half = 0;
             int size = 1;

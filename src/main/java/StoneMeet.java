@@ -60,7 +60,7 @@ public final class StoneMeet {
     private final Course course = new Course(cave);
     private final Walk walk = new Walk(course);
     private final DryRows dryRows = new DryRows(course);
-    private Search search = null;
+    private final Search search = new Search(course, cave);
     private final int[] meetYears = new int[MOST_PAIRS];
     private final int[] movedYears = new int[MOST_PAIRS];
     /** By how much a pair would grow: how many chalks. */
@@ -490,11 +490,7 @@ public final class StoneMeet {
         return set >= 0 && set < 1 << cave.pairs;
     }
 
-    /** The search is made when first asked for: an object that never asks keeps none of its rows. */
     private Search searching() {
-        if (search == null) {
-            search = new Search(course, cave);
-        }
         search.tune(cave, now.chalks);
         return search;
     }
@@ -1528,8 +1524,8 @@ public final class StoneMeet {
         private final int[] stack = new int[Law.STACK];
         /** By met, pair, drops, gap, dry: 10 more than the growth, 0 if it hasn't been asked. */
         private final byte[] growths = new byte[(MOST_PAIRS + 1) * MOST_PAIRS * SHARES * 10 * 2];
-        /** By gaps, dry: 1 if the roof falls, -1 if not; made when a law of it is first asked. */
-        private byte[] fallings = new byte[0];
+        /** By gaps, dry: 1 if the roof falls, -1 if not, 0 if it hasn't been asked. */
+        private final byte[] fallings = new byte[2 * FALLEN];
         private final int[] shares = new int[MOST_PAIRS * SHARES];
         private Cave cave;
         private int chalks = 0;
@@ -1538,12 +1534,15 @@ public final class StoneMeet {
             cave = first;
         }
 
-        /** To be told ahead of all else: of which cave, with which chalk, the rest is asked. */
+        /**
+         * To be told ahead of all else: of which cave, with which chalk, the rest is asked. A cave
+         * without a law left nothing in the law's row.
+         */
         void tune(Cave told, int toldChalks) {
-            if (cave != told) {
+            if (cave != told && cave.falls != null) {
                 Arrays.fill(fallings, (byte) 0);
             }
-            if (cave != told || chalks != toldChalks) {
+            if ((cave != told || chalks != toldChalks) && cave.grows != null) {
                 Arrays.fill(growths, (byte) 0);
             }
             cave = told;
@@ -1582,9 +1581,6 @@ public final class StoneMeet {
         private boolean collapses(int gaps, int dry) {
             if (cave.falls == null) {
                 return false;
-            }
-            if (fallings.length == 0) {
-                fallings = new byte[2 * FALLEN];
             }
             int slot = gaps + dry * FALLEN;
             if (slot < 0 || slot >= fallings.length) {

@@ -831,17 +831,17 @@ public final class StoneMeet {
         final int[] shareAt;
 
         Cave(Parser told) {
-            pairs = told.pairs;
-            drops = told.drops;
+            pairs = Math.min(told.pairs, MOST_PAIRS);
+            drops = Math.min(told.drops, MOST_DROPS);
             dryness = told.dryness;
             lines = told.lines;
             gaps = told.gaps;
             chalks = told.chalks;
             grows = told.grows;
             falls = told.falls;
-            int unled = told.pairs > 0 ? told.drops : 0;
+            int unled = pairs > 0 ? drops : 0;
             leading = told.leading == NONE ? unled : told.leading;
-            leadings = listLeadings(told.pairs, told.drops);
+            leadings = listLeadings(pairs, drops);
             shareAt = new int[leadings.length * MOST_PAIRS];
             for (int i = 0; i < shareAt.length; i++) {
                 int p = i % MOST_PAIRS;
@@ -878,6 +878,10 @@ public final class StoneMeet {
                 }
             }
             return false;
+        }
+
+        int leadingAt(int place) {
+            return place >= 0 && place < leadings.length ? leadings[place] : NONE;
         }
 
         int metBits(int state) {
@@ -1861,18 +1865,26 @@ public final class StoneMeet {
             reached = 0;
         }
 
+        private static boolean isState(int state) {
+            return state >= 0 && state < STATES;
+        }
+
         private boolean isNew(int state) {
-            return marks[state] != stamp;
+            return isState(state) && marks[state] != stamp;
         }
 
         private void reach(int state, int link) {
-            marks[state] = stamp;
-            links[state] = link;
-            entries[state] = 0;
-            if (reached < STATES) {
+            if (isState(state) && reached < STATES) {
+                marks[state] = stamp;
+                links[state] = link;
+                entries[state] = 0;
                 queue[reached] = state;
                 reached++;
             }
+        }
+
+        private int linkOf(int state) {
+            return isState(state) ? links[state] : NONE;
         }
 
         private boolean isGoal(int state, int goal) {
@@ -1916,7 +1928,9 @@ public final class StoneMeet {
                             return next;
                         }
                     }
-                    entries[next]++;
+                    if (isState(next)) {
+                        entries[next]++;
+                    }
                 }
             }
             return NONE;
@@ -1928,9 +1942,9 @@ public final class StoneMeet {
                 return NONE;
             }
             int length = 0;
-            int at = state;
-            while (links[at] != NONE && length < STATES) {
-                at = links[at] / MOST_LEADINGS;
+            int link = linkOf(state);
+            while (link != NONE && length < STATES) {
+                link = linkOf(link / MOST_LEADINGS);
                 length++;
             }
             return length;
@@ -1942,11 +1956,11 @@ public final class StoneMeet {
             if (i >= length) {
                 return NONE;
             }
-            int at = state;
+            int link = linkOf(state);
             for (int year = length - 1; year > i; year--) {
-                at = links[at] / MOST_LEADINGS;
+                link = linkOf(link / MOST_LEADINGS);
             }
-            return cave.leadings[links[at] % MOST_LEADINGS];
+            return cave.leadingAt(link % MOST_LEADINGS);
         }
 
         /** The most that have met in what was explored. */
@@ -1968,7 +1982,7 @@ public final class StoneMeet {
             for (int i = 0; i < reached; i++) {
                 holding += queue[i] < FALLEN ? 1 : 0;
             }
-            if (entries[start] > 0) {
+            if (!isState(start) || entries[start] > 0) {
                 return NONE;
             }
             begin();
@@ -1976,17 +1990,22 @@ public final class StoneMeet {
             int longest = 0;
             for (int head = 0; head < reached && head < STATES; head++) {
                 int state = queue[head];
-                longest = links[state];
+                longest = linkOf(state);
                 course.spread(state, 0, wet);
                 for (int k = 0; k < cave.leadings.length; k++) {
-                    int next = wet[k];
-                    entries[next]--;
-                    if (next < FALLEN && entries[next] == 0) {
-                        reach(next, longest + 1);
-                    }
+                    leaveFor(wet[k], longest + 1);
                 }
             }
             return reached < holding ? NONE : longest;
+        }
+
+        private void leaveFor(int next, int length) {
+            if (isState(next)) {
+                entries[next]--;
+                if (next < FALLEN && entries[next] == 0) {
+                    reach(next, length);
+                }
+            }
         }
 
         /**
@@ -1995,6 +2014,9 @@ public final class StoneMeet {
          * stays so by all leadings that are left.
          */
         long countRows(int start, int set, int years) {
+            if (!isState(start)) {
+                return 0;
+            }
             long rows = 0;
             int half = 0;
             int size = 1;
@@ -2038,14 +2060,16 @@ public final class StoneMeet {
                     reached++;
                     counts[place] = 0;
                 }
-                counts[place] += count;
+                if (isState(place)) {
+                    counts[place] += count;
+                }
             }
         }
 
         /** Within how few years a pair is forced to meet, NONE if it isn't. */
         int forcedWithin(int start, int p) {
             tellLeastYears(p);
-            if (start >= FALLEN || least[digit(start, p)] == NEVER) {
+            if (!isState(start) || start >= FALLEN || least[digit(start, p)] == NEVER) {
                 return NONE;
             }
             reachByTurns(start, p);
@@ -2054,13 +2078,13 @@ public final class StoneMeet {
                 more = false;
                 for (int i = 0; i < reached; i++) {
                     int state = queue[i];
-                    boolean hopeful = links[state] == 0 && least[digit(state, p)] <= years;
+                    boolean hopeful = linkOf(state) == 0 && least[digit(state, p)] <= years;
                     if (hopeful && forcingLeading(state, p, years - 1) != NONE) {
                         links[state] = years;
                         more = true;
                     }
                 }
-                if (links[start] != 0) {
+                if (linkOf(start) != 0) {
                     return years;
                 }
             }
@@ -2132,7 +2156,7 @@ public final class StoneMeet {
             if (digit(state, p) == 0) {
                 return true;
             }
-            boolean told = state < FALLEN && marks[state] == stamp;
+            boolean told = isState(state) && state < FALLEN && marks[state] == stamp;
             return told && links[state] != 0 && links[state] <= years;
         }
     }

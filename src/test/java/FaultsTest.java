@@ -15,19 +15,11 @@ public final class FaultsTest {
     }
 
     private static void at(int kind, String marked) {
-        int place = marked.indexOf('^');
-        String text = marked.substring(0, place) + marked.substring(place + 1);
-        StoneMeet x = new StoneMeet();
-        due.is("cave of " + marked, Due.tell(x, text), -30 - kind);
-        due.is("fault(0) of " + marked, x.fault(0), kind);
-        due.is("fault(1) of " + marked, x.fault(1), place);
-        due.is("lines of " + marked, x.count(9), 0);
+        due.faultAt(kind, marked);
     }
 
     private static void whole(int lines, String text) {
-        StoneMeet x = new StoneMeet();
-        due.is("cave of " + text, Due.tell(x, text), lines);
-        due.is("fault(1) of " + text, x.fault(1), -1);
+        due.whole(lines, text);
     }
 
     private static void tokens() {

@@ -367,7 +367,9 @@ public final class CourseEdgesTest {
         x = Due.caveOf("cave drops 1;pair gap 5;");
         x.year(1);
         is(25, "no law, behind a year", x.holding(), -1);
-        // Pair 0 goes round by wet years; the other way ends.
+        is(25, "it stays behind a year", Due.caveOf("cave drops 0;pair gap 2;grows:gap-1;falls:gaps=9;").holding(), -1);
+        is(25, "it stays at once", Due.caveOf("cave drops 0;pair gap 2;grows:0;falls:gaps=9;").holding(), -1);
+        // One pair goes round, the other way ends.
         x = Due.caveOf("cave drops 1;pair gap 2;pair gap 2;grows:if drops=1 then 1 else if gap=1 then 0-1 else 0 end end;falls:met=1;");
         is(25, "a round", x.holding(), -1);
     }
@@ -667,6 +669,12 @@ public final class CourseEdgesTest {
         is(33, "fallen, it has", x.forces(1), 0);
         is(34, "fallen", x.best(0), -1);
         is(34, "fallen, it has", x.best(1), -1);
+        // Drops too soon may leave pair 1 at 9 for ever; once pair 0 has met, a year is enough.
+        x = Due.caveOf("cave drops 1;pair gap 3;pair gap 5;grows:if pair=0 then 1 else if gap=9 then 0 else if met=1 then 5 else "
+                + "if drops=0 then 0 else if dry=1 then 0-9 else 9 end end end end end;");
+        is(33, "the first pair", x.forces(0), 3);
+        is(33, "the second, behind the first", x.forces(1), 4);
+        is(34, "the second, behind the first", x.best(1), 1);
     }
 
     private static void best() {

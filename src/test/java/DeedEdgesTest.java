@@ -514,6 +514,15 @@ public final class DeedEdgesTest {
             is(12, "count " + what, x.count(what), told[what]);
         }
         x.year(0);
+        x.chalk(1, 4);
+        is(15, "some could be", x.age(9, 40) > 0 ? 1 : 0, 1);
+        is(12, "the age alone", x.undo(1), 2);
+        int[] ahead = {2, 2, 0, 10, 2, 0, 1, 2};
+        for (int what = 0; what < ahead.length; what++) {
+            is(12, "count " + what + " ahead of the age", x.count(what), ahead[what]);
+        }
+        is(12, "chalk ahead of the age", x.pair(1, 1), 4);
+        x.undo(1);
         x.saw(0);
         is(12, "sawn off", x.pair(0, 0), 3);
         x.undo(1);

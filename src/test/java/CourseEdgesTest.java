@@ -45,6 +45,8 @@ public final class CourseEdgesTest {
         best();
         chanceCodes();
         chances();
+        noPairs();
+        fourthPair();
         due.end("CourseEdgesTest");
     }
 
@@ -766,5 +768,82 @@ public final class CourseEdgesTest {
         is(37, "no law", Due.caveOf("cave drops 0;dry 7;").fallen(8, 0), 0);
         is(37, "no law", Due.caveOf("cave drops 0;dry 7;").fallen(8, 1), 1);
         is(37, "no pairs", Due.caveOf("cave drops 0;dry 7;falls:dry=0;").fallen(8, 0), 100000000 - 5764801);
+    }
+
+    // ---- no pairs, and four of them
+
+    private static void noPairs() {
+        StoneMeet x = Due.caveOf("cave drops 4;dry 3;grows:9;falls:dry=1 and gaps=0 and widest=0 and met=0;");
+        is(43, "pairs", x.count(0), 0);
+        is(43, "drops", x.count(1), 4);
+        is(43, "the leading", x.count(4), 0);
+        is(43, "who has met", x.count(2), 0);
+        is(43, "gaps", x.count(3), 0);
+        is(7, "leadings()", x.leadings(), 1);
+        is(9, "lead(4)", x.lead(4), -11);
+        is(9, "lead(0)", x.lead(0), 0);
+        is(18, "order(0)", x.order(0), -1);
+        is(19, "falls()", x.falls(), -1);
+        is(21, "soonest(0)", x.soonest(0), 0);
+        is(21, "soonest(1)", x.soonest(1), -3);
+        is(22, "way(0, 0)", x.way(0, 0), -1);
+        is(23, "rows(0, 8)", x.rows(0, 8), 1);
+        is(24, "most()", x.most(), 0);
+        is(25, "holding()", x.holding(), -1);
+        is(26, "felling()", x.felling(), -1);
+        is(27, "stands()", x.stands(), 1);
+        is(37, "fallen in a year, above", x.fallen(1, 0), 3);
+        is(37, "fallen in a year, below", x.fallen(1, 1), 10);
+        is(37, "fallen in two, above", x.fallen(2, 0), 51);
+        is(8, "a dry year", x.year(1), 0);
+        is(43, "fallen", x.count(5), 1);
+        is(10, "no such pair, ahead of fallen", x.saw(0), -11);
+        is(25, "it has fallen", x.holding(), -5);
+        is(26, "it has fallen", x.felling(), -5);
+        is(27, "stands()", x.stands(), 1);
+        is(23, "rows(0, 8)", x.rows(0, 8), 1);
+        is(21, "soonest(0)", x.soonest(0), 0);
+    }
+
+    /** All that is asked of a pair, asked of the last that there can be. */
+    private static void fourthPair() {
+        StoneMeet x = Due.caveOf("cave drops 4;pair gap 0;pair gap 0;pair gap 0;pair gap 6 chalk 2;lead 0 0 0 4;dry 5;"
+                + "grows:if dry=1 then 0 else drops*chalk-6 end;");
+        is(6, "grown(3, 4, 0)", x.grown(3, 4, 0), 2);
+        is(6, "grown(3, 0, 0)", x.grown(3, 0, 0), -6);
+        is(16, "lies(3, 1)", x.lies(3, 1), 4);
+        is(17, "meets(3)", x.meets(3), 3);
+        is(18, "order(3)", x.order(3), 3);
+        is(20, "moved(3, 3, 0)", x.moved(3, 3, 0), -99000001);
+        is(20, "moved(0, 3, 2)", x.moved(0, 3, 2), 0);
+        is(20, "moved(3, 0, 3)", x.moved(3, 0, 3), -99000005);
+        is(21, "soonest(8)", x.soonest(8), 3);
+        is(21, "soonest(15)", x.soonest(15), 3);
+        for (int i = 0; i < 3; i++) {
+            is(22, "way(8, " + i + ")", x.way(8, i), 500);
+        }
+        is(22, "way(8, 3)", x.way(8, 3), -1);
+        is(23, "rows(8, 3)", x.rows(8, 3), 1);
+        is(24, "most()", x.most(), 4);
+        is(33, "forces(3)", x.forces(3), -1);
+        is(34, "best(3)", x.best(3), -1);
+        is(35, "chance(3, 3, 1)", x.chance(3, 3, 1), 8);
+        is(36, "mean(3, 1, 0)", x.mean(3, 1, 0), 5);
+        Due.fill(x, 3, 6, 4, 4, 2);
+        is(28, "seen(3, 3)", x.seen(3, 3), 1);
+        is(29, "seenDry(3, 3, 2)", x.seenDry(3, 3, 2), 1);
+        is(30, "surely(3, 3, 1)", x.surely(3, 3, 1), 5);
+        is(30, "surely(3, 3, 0)", x.surely(3, 3, 0), 10);
+        Due.fill(x, 3, 4);
+        is(31, "chalks(3, 3)", x.chalks(3, 3), 4);
+        is(32, "attempt(3, 3)", x.attempt(3, 3), 0);
+        is(40, "lists(3, 3)", x.lists(3, 3), 1);
+        is(8, "year(0)", x.year(0), 0);
+        is(10, "saw(3)", x.saw(3), 4);
+        is(11, "chalk(3, 3)", x.chalk(3, 3), 2);
+        is(8, "year(0)", x.year(0), 1);
+        is(43, "who has met", x.count(2), 15);
+        is(12, "undo(1)", x.undo(1), 3);
+        is(43, "gaps", x.count(3), 6);
     }
 }

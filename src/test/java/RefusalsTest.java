@@ -44,6 +44,7 @@ public final class RefusalsTest {
         behind("as told", RefusalsTest::asTold);
         behind("used", RefusalsTest::used);
         behind("fallen", RefusalsTest::fallen);
+        faults();
         due.end("RefusalsTest");
     }
 
@@ -191,6 +192,15 @@ public final class RefusalsTest {
             row("age(5, " + times + ")", -3, x -> x.age(5, times));
         }
         asks("perform(2) of no deeds", x -> x.perform(2));
+        asks("perform(1) of none that can be", x -> x.perform(1));
+        for (int seed = 0; seed < 60; seed++) {
+            int told = seed;
+            StoneMeet trial = new StoneMeet();
+            asTold(trial);
+            if (trial.age(told, 1) == 0) {
+                asks("age(" + told + ", 1) of none that could be", x -> x.age(told, 1));
+            }
+        }
     }
 
     private static void tellCourse() {
@@ -323,6 +333,30 @@ public final class RefusalsTest {
         row("restore(0)", -5, x -> x.restore(0));
         row("age(1, 0)", -3, x -> x.age(1, 0));
         row("soonest(1)", -3, x -> x.soonest(1));
+    }
+
+    /** Behind a fault all stays but the tape, which is empty, and what fault() tells. */
+    private static void faults() {
+        String much = "cave drops 4;pair gap 1 chalk 8;pair gap 2 chalk 7;pair gap 3;pair gap 4;lead 1 1 1 1;dry 9;grows:0-9;falls:1=1;";
+        String[] texts = {"", "#", "cave drops 5;", much + "#", much + "1234", much + "pair gap 1;", much + "lead 4;", much + "dry 11;",
+            much + "grows:((((((((1", much + "falls:1", "cave drops 4;" + "pair gap 1;".repeat(5)};
+        Use[] uses = {RefusalsTest::asTold, RefusalsTest::used, RefusalsTest::full, RefusalsTest::fallen, x -> { }};
+        for (Use use : uses) {
+            StoneMeet still = new StoneMeet();
+            use.of(still);
+            still.cave(0);
+            List<String> want = Look.at(still);
+            for (String text : texts) {
+                StoneMeet x = new StoneMeet();
+                use.of(x);
+                x.cave(0);
+                due.is("the fault of " + text, Due.tell(x, text) < -30 ? 1 : 0, 1);
+                due.is("the tape behind " + text, x.count(8), 0);
+                due.is("no text", x.cave(0), -32);
+                String other = Look.difference(Look.at(x), want);
+                due.is("behind the fault of " + text + " " + other, other.isEmpty() ? 0 : 1, 0);
+            }
+        }
     }
 
     // ---- what only asks

@@ -144,6 +144,13 @@ public final class ReadmeTest {
         }
         x.year(0);
         due.is("to saw under a fallen roof", x.saw(0), -12);
+        due.is("the README tells -12", readme.contains("| -11, -12 |") ? 1 : 0, 1);
+        String[] faulty = {"Cave", "pair", "cave drops 5;", "cave drops 0;" + "pair gap 1;".repeat(5)};
+        for (int i = 0; i < faulty.length; i++) {
+            due.is("a text with fault " + (i + 1), Due.tell(x, faulty[i]), -31 - i);
+            due.is("its fault", x.fault(0), i + 1);
+        }
+        due.is("the README tells -31 to -34", readme.contains("| -31 to -34 |") ? 1 : 0, 1);
         due.is("grown() of no pair", x.grown(1, 0, 0), -99000002);
         Due.tape(x, "cave drops 1;" + " ".repeat(40));
         due.is("more than is on the tape", x.cave(61), -3);
